@@ -163,7 +163,7 @@ public final class HoopStairs {
         }
         trial.copyFrom(now.hoop);
         trial.greatestLean = 0;
-        trial.rollToEnd(now.stair, now.settings);
+        trial.rollOver(Stair.MOST, now.stair, now.settings);
         switch (what) {
             case 0: return trial.ending;
             case 1: return trial.place;
@@ -175,7 +175,7 @@ public final class HoopStairs {
     public int widest() {
         for (int size = Hoop.MOST_SIZE; size >= Hoop.LEAST_SIZE; size--) {
             trial.begin(size);
-            trial.rollToEnd(now.stair, now.settings);
+            trial.rollOver(Stair.MOST, now.stair, now.settings);
             if (trial.ending == Hoop.PASSED) {
                 return size;
             }
@@ -201,7 +201,7 @@ public final class HoopStairs {
         for (int i = 0; i < taps; i++) {
             trial.takeTap(from, now.settings.value(TAP));
         }
-        trial.rollToEnd(now.stair, now.settings);
+        trial.rollOver(Stair.MOST, now.stair, now.settings);
         return trial.ending == Hoop.PASSED;
     }
 
@@ -249,9 +249,10 @@ public final class HoopStairs {
         int done = 0;
         pad.startReading();
         for (int i = 0; i < Pad.MOST && pad.readOrder(); i++) {
-            if (!carryOrder(pad.letter, pad.number)) {
+            if (orderError(pad.letter, pad.number) != FINE) {
                 break;
             }
+            carryOrder(pad.letter, pad.number);
             done++;
             pad.skipSeparator();
         }
@@ -259,59 +260,30 @@ public final class HoopStairs {
         return done;
     }
 
-    private boolean carryOrder(int letter, int number) {
+    private int orderError(int letter, int number) {
         switch (letter) {
-            case 'd': return addedAtEnd(Stair.DROP, number);
-            case 'l': return addedAtEnd(Stair.LANDING, number);
-            case 'g': return addedAtEnd(Stair.GATE, number);
-            case 'h': return begun(number);
-            case 'r': return rolled(number);
-            case '<': return tapped(0);
-            case '>': return tapped(1);
-            case '!': return pushed();
-            default: return false;
+            case 'd': return now.partError(now.stair.length, Stair.DROP, number);
+            case 'l': return now.partError(now.stair.length, Stair.LANDING, number);
+            case 'g': return now.partError(now.stair.length, Stair.GATE, number);
+            case 'h': return Hoop.allows(number) ? FINE : BAD_VALUE;
+            case 'r': return now.rollError(number);
+            case '<': return now.tapError(0);
+            case '>': return now.tapError(1);
+            default: return now.pushError();
         }
     }
 
-    private boolean addedAtEnd(int kind, int value) {
-        int end = now.stair.length;
-        if (now.partError(end, kind, value) != FINE) {
-            return false;
+    private int carryOrder(int letter, int number) {
+        switch (letter) {
+            case 'd': return now.addPart(now.stair.length, Stair.DROP, number);
+            case 'l': return now.addPart(now.stair.length, Stair.LANDING, number);
+            case 'g': return now.addPart(now.stair.length, Stair.GATE, number);
+            case 'h': return now.beginRun(number);
+            case 'r': return now.rollOver(number);
+            case '<': return now.tapFrom(0);
+            case '>': return now.tapFrom(1);
+            default: return now.pushOn();
         }
-        now.addPart(end, kind, value);
-        return true;
-    }
-
-    private boolean begun(int size) {
-        if (!Hoop.allows(size)) {
-            return false;
-        }
-        now.beginRun(size);
-        return true;
-    }
-
-    private boolean rolled(int parts) {
-        if (now.rollError(parts) != FINE) {
-            return false;
-        }
-        now.rollOver(parts);
-        return true;
-    }
-
-    private boolean tapped(int from) {
-        if (now.tapError(from) != FINE) {
-            return false;
-        }
-        now.tapFrom(from);
-        return true;
-    }
-
-    private boolean pushed() {
-        if (now.pushError() != FINE) {
-            return false;
-        }
-        now.pushOn();
-        return true;
     }
 
     // ---- undo, saving
@@ -542,48 +514,45 @@ public final class HoopStairs {
             pushes++;
         }
 
-        // A stair of MOST parts is over after as many, and one without parts after the first try.
-        void rollToEnd(Stair stair, Settings settings) {
-            rollOver(Stair.MOST, stair, settings);
-        }
-
         void rollOver(int parts, Stair stair, Settings settings) {
             for (int i = 0; i < parts && rolls(); i++) {
                 if (stair.has(place)) {
-                    rollOverNext(stair, settings);
+                    meet(stair.entry(place, Stair.KIND), stair.entry(place, Stair.VALUE), settings);
+                    goBehind(stair, settings.value(TIP));
                 } else {
                     ending = PASSED;
                 }
             }
         }
 
-        private void rollOverNext(Stair stair, Settings settings) {
-            ending = meet(stair.entry(place, Stair.KIND), stair.entry(place, Stair.VALUE), settings);
+        private void meet(int kind, int value, Settings settings) {
+            switch (kind) {
+                case Stair.DROP:
+                    dropBy(value, settings.value(SHAKE));
+                    break;
+                case Stair.LANDING:
+                    rollAlong(value, settings.value(DRAG));
+                    ending = speed == 0 ? STOPPED : ROLLS;
+                    break;
+                default:
+                    ending = size + wobble / 4 <= value ? ROLLS : STUCK;
+                    break;
+            }
+        }
+
+        private void goBehind(Stair stair, int tip) {
             if (ending != ROLLS) {
                 return;
             }
             int leaning = Math.abs(lean);
             greatestLean = Math.max(greatestLean, leaning);
-            if (leaning >= settings.value(TIP)) {
+            if (leaning >= tip) {
                 ending = FELL;
                 return;
             }
             place++;
             if (!stair.has(place)) {
                 ending = PASSED;
-            }
-        }
-
-        private int meet(int kind, int value, Settings settings) {
-            switch (kind) {
-                case Stair.DROP:
-                    dropBy(value, settings.value(SHAKE));
-                    return ROLLS;
-                case Stair.LANDING:
-                    rollAlong(value, settings.value(DRAG));
-                    return speed == 0 ? STOPPED : ROLLS;
-                default:
-                    return size + wobble / 4 <= value ? ROLLS : STUCK;
             }
         }
 

@@ -86,6 +86,7 @@ public final class RunTest {
         hoopIs("tapped twice", x, 34, 12, 18);
         Check.due("over the last landing", x.roll(1), 4);
         hoopIs("behind l9, from above 0", x, 7, 12 - 4, 3);
+        leansNearerToTheMiddle();
         HoopStairs slow = Check.stairOf("l3 l1");
         slow.hoop(5);
         Check.due("rolls on with speed", slow.roll(1), 0);
@@ -102,6 +103,28 @@ public final class RunTest {
         braked.set(2, 20);
         braked.hoop(1);
         Check.due("stops early on a landing", braked.roll(1), 3);
+    }
+
+    /** Rolls hoops with leans about 0 over a landing, with a speed that rights them by less, as much, and more. */
+    private static void leansNearerToTheMiddle() {
+        int[][] behind = {{-3, -2, -1, 0, 1, 2, 3}, {-2, -1, 0, 0, 0, 1, 2}, {-1, 0, 0, 0, 0, 0, 1}};
+        int[] pushes = {1, 3, 7};
+        for (int way = 0; way < 3; way++) {
+            for (int lean = -3; lean <= 3; lean++) {
+                HoopStairs x = Check.stairOf("l1");
+                x.set(3, 1);
+                x.hoop(5);
+                for (int i = 0; i < pushes[way]; i++) {
+                    x.push();
+                }
+                for (int i = 0; i < Math.abs(lean); i++) {
+                    x.tap(lean > 0 ? 0 : 1);
+                }
+                x.roll(1);
+                Check.due("a lean of " + lean + " after " + pushes[way] + " pushes", x.ofHoop(2),
+                    500 + behind[way][lean + 3]);
+            }
+        }
     }
 
     private static void gates() {
@@ -345,5 +368,8 @@ public final class RunTest {
         Check.due("12: no gate", x.count(6), 0);
         Check.due("12: so far, also when runs are gone", x.count(1), 3);
         Check.due("12: taps so far stay too", x.count(9), 3);
+        Check.due("12: a gate at 0", Check.stairOf("g3 g4").count(6), 3);
+        Check.due("12: a drop at 0", Check.stairOf("d3 l4").count(7), 3);
+        Check.due("12: a landing at 0", Check.stairOf("l3 d4").count(8), 3);
     }
 }

@@ -116,6 +116,9 @@ public final class StairTest {
         Check.due("4: of twenty", full.takeAway(0), 19);
         Check.due("4: the last one's place then", full.of(18, 1), 7);
         Check.due("4: there is room again", full.part(19, 2, 8), 20);
+        Check.due("4: between, of twenty", full.takeAway(10), 19);
+        Check.due("4: the two last ones then", full.of(17, 1) * 10 + full.of(18, 1), 78);
+        Check.due("4: no twentieth", full.of(19, 1), HoopStairs.NO_SUCH);
     }
 
     private static void runsAreGoneWithChangesOfTheStair() {

@@ -3,6 +3,7 @@ public final class UndoTest {
     public static void main(String[] args) {
         sixAtMost();
         eachChangeIsUndone();
+        eachWayToEndIsUndone();
         whatUndoLeaves();
         errorsRecordNothing();
         saving();
@@ -62,6 +63,22 @@ public final class UndoTest {
         x.restore(0);
         same("23: restored", told(x), atFirst);
         undone("restore", x, later);
+    }
+
+    private static void eachWayToEndIsUndone() {
+        String[] stairs = {"d9", "g1", "l9", "d1"};
+        for (int way = 1; way <= 4; way++) {
+            HoopStairs x = Check.stairOf(stairs[way - 1]);
+            x.set(0, way == 1 ? 10 : 45);
+            x.hoop(9);
+            x.tap(0);
+            Check.due("21: ends as " + way, x.roll(1), way);
+            Check.due("21: counted, " + way, x.count(way + 1), 1);
+            x.undo();
+            Check.due("21: not counted any more, " + way, x.count(way + 1), 0);
+            Check.due("21: rolls again, " + way, x.ofHoop(5), 0);
+            Check.due("21: ends as before, " + way, x.roll(1), way);
+        }
     }
 
     private static void undone(String change, HoopStairs x, int[] wanted) {
