@@ -2,6 +2,7 @@
 final class Check {
     private static int wrong = 0;
     private static int asked = 0;
+    private static String about = "";
 
     private Check() {
     }
@@ -11,9 +12,22 @@ final class Check {
         if (got != want) {
             wrong++;
             if (wrong <= 40) {
-                System.out.println(call + " answered " + got + ", due is " + want);
+                System.out.println(about + call + " answered " + got + ", due is " + want);
             }
         }
+    }
+
+    /** What the answers from here on are looked at for; it is told with a wrong one. */
+    static void lookAt(String what) {
+        about = what;
+    }
+
+    static int asked() {
+        return asked;
+    }
+
+    static int wrong() {
+        return wrong;
     }
 
     static void holds(String what, boolean isSo) {

@@ -1,6 +1,7 @@
 /** Long runs of calls, ordinary and wrong ones, compared with the answers of the model. */
 public final class ModelTest {
-    private static final int RUNS = 600, CALLS = 512;
+    // What an object answers after its 512th call is free.
+    private static final int RUNS = 4000, CALLS = 512, MOST_CALLS_AT_ONCE = 8;
     private static final String[] ORDERS = {"d", "l", "g", "h", "r", "<", ">", "!", "r"};
 
     private long seed;
@@ -20,8 +21,11 @@ public final class ModelTest {
         x = new HoopStairs();
         model = new Model();
         calm = run % 3 != 0;
-        for (int call = 1; call <= CALLS && Check.isClean(); call++) {
-            one("run " + run + ", call " + call + ": ");
+        int before = Check.asked();
+        int calls = 0;
+        while (calls + MOST_CALLS_AT_ONCE <= CALLS && Check.isClean()) {
+            one("run " + run + ", call " + (calls + 1) + ": ");
+            calls = Check.asked() - before;
         }
     }
 
@@ -100,22 +104,30 @@ public final class ModelTest {
     private void ask(String when) {
         int what = about(0, 7);
         int place = about(0, model.count(0) - 1);
-        int few = about(0, 3);
-        int size = about(1, 60);
-        int many = about(0, 15);
+        int few = about(0, 4);
         int rank = about(0, 9);
-        Check.due(when + "of(" + place + ", " + few + ")", x.of(place, few), model.of(place, few));
-        Check.due(when + "of(" + place + ", 4)", x.of(place, 4), model.of(place, 4));
-        Check.due(when + "ofHoop(" + what + ")", x.ofHoop(what), model.ofHoop(what));
-        Check.due(when + "run(" + rank + ", " + few + ")", x.run(rank, few), model.run(rank, few));
-        Check.due(when + "count(" + many + ")", x.count(many), model.count(many));
-        Check.due(when + "ifRolled(" + few + ")", x.ifRolled(few), model.ifRolled(few));
-        Check.due(when + "traced(" + size + ", " + place + ", " + few + ")", x.traced(size, place, few),
-            model.traced(size, place, few));
-        Check.due(when + "traced(1, 0, 1)", x.traced(1, 0, 1), model.traced(1, 0, 1));
-        Check.due(when + "widest()", x.widest(), model.widest());
+        int many = about(0, 15);
+        switch (upTo(6)) {
+            case 0: Check.due(when + "of(" + place + ", " + few + ")", x.of(place, few), model.of(place, few)); break;
+            case 1: Check.due(when + "ofHoop(" + what + ")", x.ofHoop(what), model.ofHoop(what)); break;
+            case 2: Check.due(when + "run(" + rank + ", " + few + ")", x.run(rank, few), model.run(rank, few)); break;
+            case 3: Check.due(when + "count(" + many + ")", x.count(many), model.count(many)); break;
+            default: askWhatIf(when, place, few); break;
+        }
+    }
+
+    private void askWhatIf(String when, int place, int few) {
+        int size = about(1, 60);
         int from = about(0, 1);
-        Check.due(when + "saves(" + from + ")", x.saves(from), model.saves(from));
+        switch (upTo(4)) {
+            case 0: Check.due(when + "ifRolled(" + few + ")", x.ifRolled(few), model.ifRolled(few)); break;
+            case 1: Check.due(when + "widest()", x.widest(), model.widest()); break;
+            case 2: Check.due(when + "saves(" + from + ")", x.saves(from), model.saves(from)); break;
+            default:
+                Check.due(when + "traced(" + size + ", " + place + ", " + few + ")", x.traced(size, place, few),
+                    model.traced(size, place, few));
+                break;
+        }
     }
 
     private void text(String when) {
@@ -158,7 +170,8 @@ public final class ModelTest {
         } else {
             Check.due(when + "restore(" + slot + ")", x.restore(slot), model.restore(slot));
         }
-        for (int what = 0; what < 16; what++) {
+        for (int i = 0; i < 3; i++) {
+            int what = upTo(16);
             Check.due(when + "then count(" + what + ")", x.count(what), model.count(what));
             Check.due(when + "then ofHoop(" + what % 8 + ")", x.ofHoop(what % 8), model.ofHoop(what % 8));
         }

@@ -36,33 +36,40 @@ public final class UndoTest {
     }
 
     private static void eachChangeIsUndone() {
-        HoopStairs x = Check.stairOf("d3 g20");
-        x.hoop(21);
-        x.roll(1);
-        int[] atFirst = told(x);
-        x.set(1, 9);
-        undone("set", x, atFirst);
-        x.part(1, 1, 4);
-        undone("part", x, atFirst);
-        x.takeAway(0);
-        undone("takeAway", x, atFirst);
-        x.hoop(9);
-        undone("hoop", x, atFirst);
-        Check.due("21: stuck", x.roll(1), 2);
-        undone("roll", x, atFirst);
-        x.tap(0);
-        undone("tap", x, atFirst);
-        x.push();
-        undone("push", x, atFirst);
-        Check.putText(x, "<;!;r;d5;h3");
-        Check.due("21: orders", x.carryOut(), 5);
-        undone("carryOut", x, atFirst);
+        undone("set", x -> x.set(1, 9), 4);
+        undone("part", x -> x.part(1, 1, 4), 3);
+        undone("takeAway", x -> x.takeAway(0), 1);
+        undone("hoop", x -> x.hoop(9), 2);
+        undone("roll", x -> x.roll(1), 2);
+        undone("tap", x -> x.tap(0), 511);
+        undone("push", HoopStairs::push, 27);
+        undone("carryOut", HoopStairs::carryOut, 5);
+        HoopStairs x = aheadOfAGate();
+        int[] saved = told(x);
         x.save(0);
         x.takeAway(0);
         int[] later = told(x);
         x.restore(0);
-        same("23: restored", told(x), atFirst);
-        undone("restore", x, later);
+        same("23: restored", told(x), saved);
+        Check.due("21: restore undone", x.undo(), 5);
+        same("21: restore undone", told(x), later);
+    }
+
+    private static HoopStairs aheadOfAGate() {
+        HoopStairs x = Check.stairOf("d3 g20");
+        x.hoop(21);
+        x.roll(1);
+        Check.putText(x, "<;!;r;d5;h3");
+        return x;
+    }
+
+    private static void undone(String change, Worlds.Call call, int answer) {
+        HoopStairs x = aheadOfAGate();
+        int[] wanted = told(x);
+        int possible = x.count(15);
+        Check.due("21: " + change, call.on(x), answer);
+        Check.due("21: " + change + " undone", x.undo(), possible);
+        same("21: " + change + " undone", told(x), wanted);
     }
 
     private static void eachWayToEndIsUndone() {
@@ -79,12 +86,6 @@ public final class UndoTest {
             Check.due("21: rolls again, " + way, x.ofHoop(5), 0);
             Check.due("21: ends as before, " + way, x.roll(1), way);
         }
-    }
-
-    private static void undone(String change, HoopStairs x, int[] wanted) {
-        int possible = x.count(15);
-        Check.due("21: " + change + " undone", x.undo(), possible - 1);
-        same("21: " + change + " undone", told(x), wanted);
     }
 
     private static void whatUndoLeaves() {
