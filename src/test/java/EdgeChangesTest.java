@@ -19,37 +19,43 @@ public final class EdgeChangesTest {
         Sentence.says("Returns the previous value", EdgeChangesTest::previousValue);
         Sentence.says("BAD_VALUE if there is no such setting", EdgeChangesTest::noSuchSetting);
         Sentence.says("or the value is out of its range", EdgeChangesTest::settingOutOfRange);
-        Sentence.says("This is a change.", EdgeChangesTest::setIsAChange);
+        Sentence.says("This is a change.", () -> oneChange(x -> x.set(0, 10), x -> x.set(0, 9)));
     }
 
     private static void partAndTakeAway() {
         Sentence.under("Promise 3: part");
         Sentence.says("a run that is going on, or over, is gone then, with its hoop.", EdgeChangesTest::partEndsRuns);
-        Sentence.says("`place`: 0 to how many parts there are: the place that it has then", EdgeChangesTest::placeOfPart);
+        Sentence.says("`place`: 0 to how many parts there are: the place that it has then",
+            EdgeChangesTest::placeOfPart);
         Sentence.says("`kind`: 0 a drop, 1 a landing, 2 a gate", EdgeChangesTest::kindOfPart);
         Sentence.says("`value`: 1 to 9; of a gate 1 to 99", EdgeChangesTest::valueOfPart);
         Sentence.says("Returns how many parts there are then", EdgeChangesTest::partCounts);
         Sentence.says("NO_SUCH if there is no such place", EdgeChangesTest::noSuchPlace);
         Sentence.says("BAD_VALUE if kind or value is out of range", EdgeChangesTest::badPart);
         Sentence.says("TOO_MANY if there are 20", EdgeChangesTest::tooManyParts);
+        Sentence.says("This is a change.", () -> oneChange(x -> x.part(2, 0, 9), x -> x.part(3, 0, 9)));
         Sentence.under("Promise 4: takeAway");
         Sentence.says("a run is gone as for part()", EdgeChangesTest::takeAwayEndsRuns);
         Sentence.says("Returns how many are left", EdgeChangesTest::howManyAreLeft);
         Sentence.says("NO_SUCH if there is no such part", EdgeChangesTest::noPartToTake);
+        Sentence.says("This is a change.", () -> oneChange(x -> x.takeAway(1), x -> x.takeAway(2)));
     }
 
     private static void hoopAndRoll() {
         Sentence.under("Promise 5: hoop");
         Sentence.says("A run begins with a new hoop, in place of one that there is", EdgeChangesTest::inPlaceOfOne);
-        Sentence.says("it rolls (0), also if there are no parts (then roll() ends it)", EdgeChangesTest::rollsWithoutParts);
+        Sentence.says("it rolls (0), also if there are no parts (then roll() ends it)",
+            EdgeChangesTest::rollsWithoutParts);
         Sentence.says("`size`: 1 to 60", EdgeChangesTest::sizesOfHoops);
         Sentence.says("Returns how many runs there have been, with this one", EdgeChangesTest::runsSoFar);
         Sentence.says("BAD_VALUE if size is out of range", EdgeChangesTest::badSize);
+        Sentence.says("This is a change.", () -> oneChange(x -> x.hoop(60), x -> x.hoop(61)));
         Sentence.under("Promise 6: roll");
         Sentence.says("`parts`: 1 to 20: over so many, or until the run is over", EdgeChangesTest::overSoMany);
         Sentence.says("Returns how the run is then, 0 to 4", EdgeChangesTest::howTheRunIs);
         Sentence.says("BAD_VALUE if parts is out of range", EdgeChangesTest::badParts);
         Sentence.says("NOT_POSSIBLE if no hoop rolls", EdgeChangesTest::noHoopToRoll);
+        Sentence.says("This is a change.", () -> oneChange(x -> x.roll(20), x -> x.roll(21)));
     }
 
     private static void tapAndPush() {
@@ -58,13 +64,31 @@ public final class EdgeChangesTest {
         Sentence.says("Returns the lean then and 500 (just so, also if that is below 0)", EdgeChangesTest::leansBelow0);
         Sentence.says("BAD_VALUE if from is neither", EdgeChangesTest::badSide);
         Sentence.says("NOT_POSSIBLE if no hoop rolls", EdgeChangesTest::noHoopToTap);
+        Sentence.says("This is a change.", () -> oneChange(x -> x.tap(1), x -> x.tap(2)));
         Sentence.under("Promise 8: push");
         Sentence.says("Returns the speed then", EdgeChangesTest::speedThen);
         Sentence.says("NOT_POSSIBLE if no hoop rolls", EdgeChangesTest::noHoopToPush);
+        Sentence.says("This is a change.", EdgeChangesTest::pushIsAChange);
     }
 
     private static void due(String call, int got, int want) {
         Check.due(call, got, want);
+    }
+
+    /** A call that does something to a hoop that rolls over two parts, and one that is refused there. */
+    private static void oneChange(Worlds.Call call, Worlds.Call refused) {
+        HoopStairs x = Worlds.rolling("g9 g9");
+        Check.holds("one is refused", refused.on(x) < 0);
+        due("which is none", x.count(15), 3);
+        Check.holds("the other is not", call.on(x) >= 0);
+        due("which is one", x.count(15), 4);
+        due("undone", x.undo(), 3);
+        Twins.tellTheSame("undone", x, Worlds.rolling("g9 g9"));
+        for (int i = 0; i < 9; i++) {
+            x.hoop(9);
+            call.on(x);
+        }
+        due("six at most", x.count(15), 6);
     }
 
     // ---- a new object, settings
@@ -126,18 +150,6 @@ public final class EdgeChangesTest {
         }
     }
 
-    private static void setIsAChange() {
-        HoopStairs x = new HoopStairs();
-        x.set(0, 9);
-        due("refused it is none", x.count(15), 0);
-        x.set(0, 45);
-        due("the same value is one", x.count(15), 1);
-        for (int i = 0; i < 7; i++) {
-            x.set(3, 30);
-        }
-        due("six at most", x.count(15), 6);
-    }
-
     // ---- parts
 
     private static void isGone(String when, HoopStairs x, int runs) {
@@ -179,16 +191,32 @@ public final class EdgeChangesTest {
     private static void placeOfPart() {
         for (int parts : new int[] {0, 1, 2, 19}) {
             for (int place = 0; place <= parts; place++) {
-                HoopStairs x = new HoopStairs();
-                for (int i = 0; i < parts; i++) {
-                    x.part(i, 2, 10 + i);
-                }
+                HoopStairs x = differentParts(parts);
                 due("at " + place + " of " + parts, x.part(place, 2, 99), parts + 1);
-                for (int i = 0; i <= parts; i++) {
-                    due("then at " + i, x.of(i, 1), i == place ? 99 : i < place ? 10 + i : 9 + i);
+                for (int i = 0; i < place; i++) {
+                    isTheDifferentPart(x, i, i);
+                }
+                due("its kind", x.of(place, 0), 2);
+                due("its value", x.of(place, 1), 99);
+                for (int i = place; i < parts; i++) {
+                    isTheDifferentPart(x, i + 1, i);
                 }
             }
         }
+    }
+
+    /** Parts of which no two that are next to one another are the same. */
+    private static HoopStairs differentParts(int parts) {
+        HoopStairs x = new HoopStairs();
+        for (int i = 0; i < parts; i++) {
+            x.part(i, i % 3, 1 + i % 8);
+        }
+        return x;
+    }
+
+    private static void isTheDifferentPart(HoopStairs x, int place, int number) {
+        due("the kind at " + place, x.of(place, 0), number % 3);
+        due("the value at " + place, x.of(place, 1), 1 + number % 8);
     }
 
     private static void kindOfPart() {
@@ -289,16 +317,14 @@ public final class EdgeChangesTest {
                 due("counted", x.count(0), left);
             }
         }
-        HoopStairs x = new HoopStairs();
-        for (int i = 0; i < 20; i++) {
-            x.part(i, 2, 10 + i);
+        for (int place = 0; place < 20; place++) {
+            HoopStairs x = differentParts(20);
+            due("takeAway(" + place + ") of 20", x.takeAway(place), 19);
+            for (int i = 0; i < 19; i++) {
+                isTheDifferentPart(x, i, i < place ? i : i + 1);
+            }
+            due("no twentieth", x.of(19, 0), NO_SUCH);
         }
-        x.takeAway(19);
-        due("without the last", x.of(18, 1), 28);
-        x.takeAway(0);
-        due("without the first", x.of(0, 1) * 100 + x.of(17, 1), 1128);
-        x.takeAway(5);
-        due("without one between", x.of(4, 1) * 100 + x.of(5, 1), 1517);
     }
 
     private static void noPartToTake() {
@@ -381,6 +407,9 @@ public final class EdgeChangesTest {
         for (int run = 6; run <= 100; run++) {
             due("one more", x.hoop(9), run);
         }
+        HoopStairs bare = new HoopStairs();
+        due("the first without parts", bare.hoop(9), 1);
+        due("the second without parts", bare.hoop(9), 2);
     }
 
     private static void badSize() {
@@ -513,5 +542,21 @@ public final class EdgeChangesTest {
             due(world.name(), world.make().push(), NOT_POSSIBLE);
         }
         due("one that rolls", Worlds.rolling("d1 d1").push(), 15);
+    }
+
+    private static void pushIsAChange() {
+        HoopStairs x = new HoopStairs();
+        x.push();
+        due("refused it is none", x.count(15), 0);
+        x.hoop(9);
+        x.push();
+        due("else it is one", x.count(15), 2);
+        due("undone", x.undo(), 1);
+        due("as fast as before", x.ofHoop(1), 10);
+        due("no push", x.ofHoop(7), 0);
+        Worlds.pushes(x, 19);
+        due("six at most, and also when it is no faster", x.count(15), 6);
+        x.undo();
+        due("one push less", x.ofHoop(7), 18);
     }
 }

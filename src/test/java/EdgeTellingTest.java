@@ -22,9 +22,10 @@ public final class EdgeTellingTest {
 
     private static void ofTheHoop() {
         Sentence.under("Promise 10: ofHoop");
-        Sentence.says("`what`: 0 its size, 1 its speed, 2 its lean and 500, 3 its wobble", EdgeTellingTest::hoopAtItsEnds);
-        Sentence.says("4 the place of the part that is next (or at which the run ended; how many parts there are if it is "
-            + "behind the last one)", EdgeTellingTest::placeOfTheHoop);
+        Sentence.says("`what`: 0 its size, 1 its speed, 2 its lean and 500, 3 its wobble",
+            EdgeTellingTest::hoopAtItsEnds);
+        Sentence.says("4 the place of the part that is next (or at which the run ended; how many parts there are if it "
+            + "is behind the last one)", EdgeTellingTest::placeOfTheHoop);
         Sentence.says("5 how the run is, 0 to 4", EdgeTellingTest::howTheRunIs);
         Sentence.says("6 taps in this run, 7 pushes", EdgeTellingTest::tapsAndPushesOfThisRun);
         Sentence.says("BAD_VALUE if what is out of range", EdgeTellingTest::badWhatOfTheHoop);
@@ -107,6 +108,12 @@ public final class EdgeTellingTest {
         x.part(1, 2, 9);
         endsAre("the same anew", x, 1, 0, 0, 0);
         endsAre("the one that stayed", x, 0, 0, 0, 1);
+        x.takeAway(1);
+        x.part(0, 2, 9);
+        endsAre("the one that stayed, one place farther", x, 1, 0, 0, 1);
+        x.takeAway(0);
+        endsAre("and back", x, 0, 0, 0, 1);
+        endsAre("the next one", x, 1, 0, 0, 0);
         HoopStairs full = Worlds.manyOf(19, "g9");
         full.part(19, 2, 8);
         full.hoop(9);
@@ -422,8 +429,9 @@ public final class EdgeTellingTest {
         x.tap(2);
         Worlds.taps(x, 3, 0);
         due("three", x.count(9), 3);
-        x.saves(0);
-        due("not those that were looked for", x.count(9), 3);
+        HoopStairs wide = Worlds.rolling("g8");
+        due("none saves", wide.saves(0), NONE);
+        due("not those that were looked for", wide.count(9), 0);
         x.hoop(9);
         Worlds.taps(x, 2, 1);
         due("of all runs", x.count(9), 5);

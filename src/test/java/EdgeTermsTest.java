@@ -49,8 +49,8 @@ public final class EdgeTermsTest {
         Sentence.says("It stands ahead of the part 0 as a run begins", EdgeTermsTest::aheadOfPart0);
         Sentence.says("its speed becomes h * 4 more, 99 at most", EdgeTermsTest::dropsMakeItFaster);
         Sentence.says("its wobble SHAKE * h more, 99 at most", EdgeTermsTest::dropsShakeIt);
-        Sentence.says("and its lean changes by (wobble then) / 4, to the right if the place of the part is even, to the "
-            + "left if it is odd.", EdgeTermsTest::dropsLeanIt);
+        Sentence.says("and its lean changes by (wobble then) / 4, to the right if the place of the part is even, to "
+            + "the left if it is odd.", EdgeTermsTest::dropsLeanIt);
     }
 
     private static void landingsAndGates() {
@@ -66,8 +66,9 @@ public final class EdgeTermsTest {
     private static void endsAndTaps() {
         Sentence.says("Behind each part (but for one at which it is stuck or stops): if its lean, without a sign, is "
             + "TIP or more, it falls.", EdgeTermsTest::fallsAtTip);
-        Sentence.says("The run is over when the hoop falls (1), is stuck (2), stops (3), or is behind the last part (4); "
-            + "until then it rolls (0).", EdgeTermsTest::overOrRolling);
+        Sentence.says("The run is over when the hoop falls (1), is stuck (2), stops (3), or is behind the last part "
+            + "(4); until then it rolls (0).", EdgeTermsTest::overOrRolling);
+        Sentence.says("A tap, while it rolls", EdgeTermsTest::tapsWhileItRolls);
         Sentence.says("its lean changes by TAP toward the other side than the one from which it comes",
             EdgeTermsTest::tapsLeanIt);
         Sentence.says("its wobble becomes 2 more, 99 at most.", EdgeTermsTest::tapsShakeIt);
@@ -445,11 +446,13 @@ public final class EdgeTermsTest {
         due("at first", x.ofHoop(1), 10);
         x.roll(3);
         due("not above 99", x.ofHoop(1), 99);
+        x.hoop(9);
+        due("at first, after a fast one", x.ofHoop(1), 10);
         x = Worlds.rolling("l9");
         x.roll(1);
         due("not below 0", x.ofHoop(1), 0);
         x.hoop(9);
-        due("at first again", x.ofHoop(1), 10);
+        due("at first, after one that stopped", x.ofHoop(1), 10);
     }
 
     private static void leans() {
@@ -677,6 +680,19 @@ public final class EdgeTermsTest {
     }
 
     // ---- taps and pushes
+
+    private static void tapsWhileItRolls() {
+        for (Worlds.Named world : Worlds.withoutAHoopThatRolls()) {
+            refused("tap(0)", world, x -> x.tap(0), NOT_POSSIBLE);
+            refused("tap(1)", world, x -> x.tap(1), NOT_POSSIBLE);
+            refused("push()", world, HoopStairs::push, NOT_POSSIBLE);
+        }
+        due("ahead of the first part", Worlds.rolling("g9 g9").tap(0), 508);
+        HoopStairs last = Worlds.rolling("g9 g9");
+        last.roll(1);
+        due("ahead of the last part", last.tap(0), 508);
+        due("without parts", Worlds.rolling("").tap(0), 508);
+    }
 
     private static void tapsLeanIt() {
         for (int tap : new int[] {1, 8, 30}) {

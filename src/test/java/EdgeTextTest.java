@@ -19,22 +19,26 @@ public final class EdgeTextTest {
         Sentence.says("\"g\" number | \"h\" number", EdgeTextTest::gatesAndHoops);
         Sentence.says("\"r\" [ number ]", EdgeTextTest::rolls);
         Sentence.says("\"<\" | \">\" | \"!\"", EdgeTextTest::tapsAndPushes);
-        Sentence.says("\"d\", \"l\", \"g\": a part comes to the end of the stair", EdgeTextTest::toTheEndOfTheStair);
+        Sentence.says("\"d\", \"l\", \"g\": a part comes to the end of the stair: a drop, a landing, a gate",
+            EdgeTextTest::toTheEndOfTheStair);
+        Sentence.says("\"h\": hoop() of a size", EdgeTextTest::hoopsOfASize);
         Sentence.says("\"r\": roll() over so many parts (1 without)", EdgeTextTest::oneWithout);
+        Sentence.says("\"<\", \">\": tap() from the left, or from the right; \"!\": push()",
+            EdgeTextTest::tapsAndPushesDone);
         Sentence.says("A digit is 0 to 9, a number 0 to 99, without leading zeros.", EdgeTextTest::digitsAndNumbers);
-        Sentence.says("The fault is the index of the first character that cannot stand at its place when the text is read "
-            + "from left to right", EdgeTextTest::firstThatCannotStand);
+        Sentence.says("The fault is the index of the first character that cannot stand at its place when the text is "
+            + "read from left to right", EdgeTextTest::firstThatCannotStand);
         Sentence.says("(also of a digit by which a number would be above 99)", EdgeTextTest::above99);
-        Sentence.says("if there is none and the text ends too early (also if it is empty), it is the length of the text.",
-            EdgeTextTest::endsTooEarly);
+        Sentence.says("if there is none and the text ends too early (also if it is empty), it is the length of the "
+            + "text.", EdgeTextTest::endsTooEarly);
     }
 
     private static void putAndWipe() {
         Sentence.under("Promise 17: put");
         Sentence.says("its lowest 8 bits are the last character, the next 8 bits the one before, and so on",
             EdgeTextTest::lowestBitsAreTheLast);
-        Sentence.says("8 bits that are 0 mean that there are no more characters, and everything above them has to be 0, "
-            + "too.", EdgeTextTest::nothingAboveZeroBits);
+        Sentence.says("8 bits that are 0 mean that there are no more characters, and everything above them has to be "
+            + "0, too.", EdgeTextTest::nothingAboveZeroBits);
         Sentence.says("`characters`: 1 to 8 characters", EdgeTextTest::oneToEight);
         Sentence.says("Returns the length of the pad then", EdgeTextTest::lengthThen);
         Sentence.says("BAD_VALUE if there is no character", EdgeTextTest::noCharacter);
@@ -49,10 +53,11 @@ public final class EdgeTextTest {
         Sentence.under("Promise 19: fault");
         Sentence.says("Returns the fault of the pad, NONE if there is none.", EdgeTextTest::noFault);
         Sentence.under("Promise 20: carryOut");
-        Sentence.says("Carries the orders of the pad out, one after the other, up to the first one that returns an error",
-            EdgeTextTest::upToTheFirstError);
+        Sentence.says("Carries the orders of the pad out, one after the other, up to the first one that returns an "
+            + "error", EdgeTextTest::upToTheFirstError);
         Sentence.says("and empties the pad", EdgeTextTest::emptiesThePad);
-        Sentence.says("This is a change (one, with all of them; also if none is carried out).", EdgeTextTest::oneChange);
+        Sentence.says("This is a change (one, with all of them; also if none is carried out).",
+            EdgeTextTest::oneChange);
         Sentence.says("Returns how many orders were carried out", EdgeTextTest::howManyOrders);
         Sentence.says("BAD_TEXT if the pad has a fault (then it stays).", EdgeTextTest::faultyPadStays);
     }
@@ -164,6 +169,9 @@ public final class EdgeTextTest {
         due("a landing behind it", x.of(1, 0) * 100 + x.of(1, 1), 102);
         due("a gate behind that", x.of(2, 0) * 100 + x.of(2, 1), 203);
         due("the drop stays on top", x.of(0, 1), 1);
+        Check.putText(x, "d4");
+        x.carryOut();
+        due("a drop behind them all", x.of(3, 0) * 100 + x.of(3, 1), 4);
         HoopStairs nineteen = Worlds.manyOf(19, "d1");
         Check.putText(nineteen, "g99;g98");
         due("the twentieth, and no more", nineteen.carryOut(), 1);
@@ -172,6 +180,35 @@ public final class EdgeTextTest {
         Check.putText(rolling, "d1");
         rolling.carryOut();
         due("a run is gone then", rolling.ofHoop(5), NONE);
+    }
+
+    private static void hoopsOfASize() {
+        for (int size = 0; size <= 99; size++) {
+            HoopStairs x = withPad("h" + size);
+            boolean fine = size >= 1 && size <= 60;
+            due("h" + size, x.carryOut(), fine ? 1 : 0);
+            due("its size", x.ofHoop(0), fine ? size : NONE);
+        }
+        HoopStairs x = withPad("h60;h1");
+        due("two", x.carryOut(), 2);
+        due("the second in place of the first", x.ofHoop(0), 1);
+        due("two runs", x.count(1), 2);
+    }
+
+    private static void tapsAndPushesDone() {
+        HoopStairs x = Worlds.rolling("g9");
+        Check.putText(x, "<;<;<");
+        x.carryOut();
+        due("from the left", x.ofHoop(2), 524);
+        Check.putText(x, ">;>;>;>");
+        x.carryOut();
+        due("from the right", x.ofHoop(2), 492);
+        due("all taps", x.ofHoop(6), 7);
+        due("no push", x.ofHoop(7), 0);
+        Check.putText(x, "!" + ";!".repeat(17));
+        x.carryOut();
+        due("all pushes", x.ofHoop(7), 18);
+        due("99 at most", x.ofHoop(1), 99);
     }
 
     private static void oneWithout() {
@@ -205,6 +242,7 @@ public final class EdgeTextTest {
                 }
             }
             faultIs(order + "000", 2);
+            faultIs(order + "100", 3);
             faultIs(order + "-1", 1);
             faultIs(order + "+1", 1);
         }
@@ -257,8 +295,8 @@ public final class EdgeTextTest {
     private static void endsTooEarly() {
         due("a new pad", new HoopStairs().fault(), 0);
         faultIs("", 0);
-        for (String early : new String[] {"d", "l", "g", "h", "d1;", "r;", "r5;", "g9;", "g99;", "<;", ">;", "!;", "d1;l",
-            "d1;g", "!;h", "d1;d1;"}) {
+        for (String early : new String[] {"d", "l", "g", "h", "d1;", "r;", "r5;", "g9;", "g99;", "<;", ">;", "!;",
+            "d1;l", "d1;g", "!;h", "d1;d1;"}) {
             faultIs(early, early.length());
         }
         faultIs("!;".repeat(40), 80);

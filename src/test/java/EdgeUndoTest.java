@@ -297,6 +297,13 @@ public final class EdgeUndoTest {
         x.hoop(3);
         x.restore(1);
         Twins.tellTheSame("restored", x, Worlds.busy());
+        for (int way = 1; way <= 4; way++) {
+            HoopStairs over = Worlds.ended(way);
+            over.save(0);
+            over.hoop(1);
+            over.restore(0);
+            due("a run that is over as " + way, over.ofHoop(5), way);
+        }
         HoopStairs fresh = new HoopStairs();
         fresh.save(0);
         fresh.part(0, 0, 1);
@@ -318,6 +325,7 @@ public final class EdgeUndoTest {
         pad.set(TIP, 60);
         pad.save(1);
         pad.restore(0);
+        due("not in the other slot", pad.count(10), 45);
         pad.restore(1);
         due("except the slots", pad.count(10), 60);
     }
@@ -385,6 +393,8 @@ public final class EdgeUndoTest {
         x.save(1);
         for (int again = 0; again < 3; again++) {
             x.roll(20);
+            x.hoop(1);
+            x.tap(0);
             x.part(0, 0, 9);
             x.set(TIP, 20);
             due("again " + again, x.restore(1), 4);

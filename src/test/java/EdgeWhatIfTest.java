@@ -18,8 +18,8 @@ public final class EdgeWhatIfTest {
         Sentence.says("Tells how a run of the hoop would end, if it rolled on without taps and pushes.",
             EdgeWhatIfTest::rollsOnFromNow);
         Sentence.says("`what`: 0 how, 1 to 4, 1 the place, 2 the speed then", EdgeWhatIfTest::eachWayToEnd);
-        Sentence.says("3 the greatest lean, without a sign, behind parts from now on (but for one at which it is stuck or "
-            + "stops; 0 if there is none)", EdgeWhatIfTest::greatestLean);
+        Sentence.says("3 the greatest lean, without a sign, behind parts from now on (but for one at which it is stuck "
+            + "or stops; 0 if there is none)", EdgeWhatIfTest::greatestLean);
         Sentence.says("BAD_VALUE if what is out of range", EdgeWhatIfTest::badWhatIfRolled);
         Sentence.says("NOT_POSSIBLE if no hoop rolls", EdgeWhatIfTest::noHoopIfRolled);
     }
@@ -31,7 +31,8 @@ public final class EdgeWhatIfTest {
         Sentence.says("Returns its size; NONE if none does.", EdgeWhatIfTest::widestOrNone);
         Sentence.under("Promise 15: saves");
         Sentence.says("the fewest, 0 to 20", EdgeWhatIfTest::fewestTaps);
-        Sentence.says("would let the hoop pass all parts that are left, without others", EdgeWhatIfTest::partsThatAreLeft);
+        Sentence.says("would let the hoop pass all parts that are left, without others",
+            EdgeWhatIfTest::partsThatAreLeft);
         Sentence.says("`from`: 0 from the left, 1 from the right", EdgeWhatIfTest::sidesThatSave);
         Sentence.says("BAD_VALUE if from is neither", EdgeWhatIfTest::badSideThatSaves);
         Sentence.says("NOT_POSSIBLE if no hoop rolls", EdgeWhatIfTest::noHoopToSave);
@@ -290,10 +291,10 @@ public final class EdgeWhatIfTest {
         due("too wide", x.saves(0), NONE);
         due("too wide, from the right", x.saves(1), NONE);
         due("stops", Worlds.rolling("l9").saves(0), NONE);
-        HoopStairs shaken = Worlds.rolling("g9");
+        HoopStairs shaken = Worlds.rolling("g10");
         Worlds.lean(shaken, 50);
         shaken.set(TAP, 5);
-        due("two taps that bring it below TIP, with a wobble of 8", shaken.saves(1), NONE);
+        due("one tap makes its wobble 6, two make it 8, and only they bring it below TIP", shaken.saves(1), NONE);
         due("farther off", leaning(98 + 601, 30).saves(1), NONE);
     }
 

@@ -22,7 +22,11 @@ final class Sentence {
         int wrong = Check.wrong();
         Check.lookAt(section + " says '" + words + "': ");
         Check.holds("it stands there", sectionsText == null || sectionsText.contains(words));
-        test.run();
+        try {
+            test.run();
+        } catch (RuntimeException thrown) {
+            Check.holds("no call throws, but here was " + thrown, false);
+        }
         Check.holds("it has a test", Check.asked() > asked + 1);
         if (Check.wrong() > wrong) {
             System.out.println("BROKEN: " + section + ": " + words);
