@@ -53,7 +53,10 @@ public final class EdgeUndoTest {
     /** Every kind of change, each possible in a busy world. */
     private static List<Worlds.Call> changes() {
         List<Worlds.Call> all = new ArrayList<>();
-        all.add(x -> x.set(TIP, 99));
+        for (int setting = 0; setting < 4; setting++) {
+            int one = setting;
+            all.add(x -> x.set(one, 11));
+        }
         all.add(x -> x.part(1, 1, 4));
         all.add(x -> x.takeAway(2));
         all.add(x -> x.hoop(60));
