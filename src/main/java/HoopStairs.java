@@ -771,18 +771,26 @@ public final class HoopStairs {
         }
 
         void record(State state) {
+            if (!has(next)) {
+                return;
+            }
             states[next].copyFrom(state);
             next = (next + 1) % MOST;
             length = Math.min(MOST, length + 1);
         }
 
         int stepBack(State state) {
-            if (length > 0) {
-                next = (next + MOST - 1) % MOST;
-                state.copyFrom(states[next]);
+            int latest = (next + MOST - 1) % MOST;
+            if (length > 0 && has(latest)) {
+                state.copyFrom(states[latest]);
+                next = latest;
                 length--;
             }
             return length;
+        }
+
+        private static boolean has(int index) {
+            return index >= 0 && index < MOST;
         }
     }
 
